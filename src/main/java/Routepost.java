@@ -155,7 +155,7 @@ public final class Routepost {
         Parcel parcel = new Parcel(parcels.size(), origin, destination, volume, service, minute);
         parcels.add(parcel);
         parcel.settle(origin, minute);
-        parcel.history.record('a', minute, origin, null);
+        parcel.history.note('a', minute, origin, null);
         planWithPromise(parcel);
         return parcel.number;
     }
@@ -173,7 +173,7 @@ public final class Routepost {
             return 'a';
         }
         scanned.settle(there, minute);
-        scanned.history.record('s', minute, there, null);
+        scanned.history.note('s', minute, there, null);
         plan(scanned);
         return 'o';
     }
@@ -188,7 +188,7 @@ public final class Routepost {
         }
         offered.state = DELIVERED;
         offered.deliveredIn = minute;
-        offered.history.record('d', minute, offered.hub, null);
+        offered.history.note('d', minute, offered.hub, null);
         return 'd';
     }
 
@@ -552,7 +552,7 @@ public final class Routepost {
 
     private char noticeMisroute(Parcel parcel, Hub there) {
         parcel.misrouted++;
-        parcel.history.record('m', minute, there, null);
+        parcel.history.note('m', minute, there, null);
         if (parcel.misrouted >= HOLDING_MISROUTE) {
             parcel.ride = null;
             parcel.hub = there;
@@ -566,7 +566,7 @@ public final class Routepost {
 
     private char failAttempt(Parcel parcel) {
         parcel.failed++;
-        parcel.history.record('f', minute, parcel.hub, null);
+        parcel.history.note('f', minute, parcel.hub, null);
         if (parcel.failed < parcel.attemptsAllowed()) {
             return 'w';
         }
@@ -580,7 +580,7 @@ public final class Routepost {
 
     private void hold(Parcel parcel) {
         parcel.state = HELD;
-        parcel.history.record('h', minute, parcel.hub, null);
+        parcel.history.note('h', minute, parcel.hub, null);
     }
 
     private void turnBack(Parcel parcel) {
@@ -589,7 +589,7 @@ public final class Routepost {
         parcel.failed = 0;
         parcel.reachedIn = NONE;
         parcel.settle(parcel.hub, minute);
-        parcel.history.record('r', minute, parcel.hub, null);
+        parcel.history.note('r', minute, parcel.hub, null);
         planWithPromise(parcel);
     }
 
@@ -604,7 +604,7 @@ public final class Routepost {
                 parcel.ride = null;
                 parcel.hub = line.to;
                 parcel.state = UNSCANNED;
-                parcel.history.record('u', minute, line.to, line);
+                parcel.history.note('u', minute, line.to, line);
                 unloaded++;
             }
         }
@@ -651,8 +651,7 @@ public final class Routepost {
         parcel.state = ON_TRUCK;
         parcel.ride = line;
         parcel.dueIn = minute + line.travel;
-        parcel.next = null;
-        parcel.history.record('l', minute, line.from, line);
+        parcel.history.note('l', minute, line.from, line);
     }
 
     private int countWaiting(Line line) {
@@ -778,9 +777,7 @@ public final class Routepost {
             acceptedIn = now;
             hub = origin;
             history = new History();
-            state = UNSCANNED;
             reachedIn = NONE;
-            promised = NONE;
         }
 
         /** The parcel is at a hub and scanned there, wherever it was before. */
@@ -814,7 +811,7 @@ public final class Routepost {
                 return service < other.service;
             }
             if (promised != other.promised) {
-                return other.promised == NONE || promised != NONE && promised < other.promised;
+                return other.promised == NONE || (promised != NONE && promised < other.promised);
             }
             return number < other.number;
         }
@@ -843,7 +840,7 @@ public final class Routepost {
         }
 
         /** Notes an event; the line is that of a loading or unloading, else null. */
-        void record(char letter, int now, Hub hub, Line line) {
+        void note(char letter, int now, Hub hub, Line line) {
             if (events.size() >= MOST_EVENTS) {
                 return;
             }
@@ -929,12 +926,12 @@ public final class Routepost {
             size = before.size + 1;
             // Four bits a line, so that routes of the same size compare line by line.
             route = (before.route << 4) + line.number;
-            visited = before.visited | 1 << line.to.number;
+            visited = before.visited | (1 << line.to.number);
             isExtended = false;
         }
 
         boolean hasVisited(Hub other) {
-            return (visited & 1 << other.number) != 0;
+            return (visited & (1 << other.number)) != 0;
         }
 
         boolean isBetterThan(Path other) {
@@ -948,7 +945,7 @@ public final class Routepost {
         }
 
         int lineNumberAt(int index) {
-            return route >> 4 * (size - 1 - index) & 15;
+            return (route >> (4 * (size - 1 - index))) & 15;
         }
     }
 
@@ -1048,7 +1045,7 @@ public final class Routepost {
 
         // Paths come in the order of their line numbers, so of equal ones the first stays.
         private void compare(int end, int size) {
-            if (bestEnd == NONE || end < bestEnd || end == bestEnd && size < bestSize) {
+            if (bestEnd == NONE || end < bestEnd || (end == bestEnd && size < bestSize)) {
                 bestEnd = end;
                 bestSize = size;
                 bestFirst = first;

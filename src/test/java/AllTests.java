@@ -4,6 +4,7 @@ final class AllTests {
     }
 
     public static void main(String[] args) {
+        LanguageTest.run();
         FaceTest.run();
         HubTest.run();
         LineTest.run();

@@ -149,6 +149,10 @@ final class BagTest {
         post.accept(0, 2111, 8, 1);
         Check.same("29 and 1", 4, post.bagsAtLeast(0));
         Check.same("bagsNeeded", 4, post.bagsNeeded(0));
+        Routepost other = Posts.ring();
+        other.accept(2, 1111, 9, 1);
+        other.accept(2, 2111, 9, 1);
+        Check.same("to the hubs 0 and 1", 2, other.bagsAtLeast(2));
     }
 
     private static void promises38And39() {

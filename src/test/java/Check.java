@@ -69,7 +69,7 @@ final class Check {
         try {
             call.run();
         } catch (RuntimeException e) {
-            thrown = e.getClass().getName();
+            thrown = isThrownByClass(e) ? e.getClass().getName() : "by the machine or the library " + e;
         }
         if (!thrown.equals(kind.getName())) {
             report(what + " threw " + thrown + ", due is " + kind.getName());
@@ -77,6 +77,13 @@ final class Check {
         if (!before.equals(Answers.of(post))) {
             report(what + " was refused and changed something");
         }
+    }
+
+    /** An exception that the class throws itself begins in one of its own methods. */
+    private static boolean isThrownByClass(RuntimeException thrown) {
+        StackTraceElement[] trace = thrown.getStackTrace();
+        return trace.length > 0 && trace[0].getClassName().startsWith("Routepost")
+                && thrown.getCause() == null && !(thrown instanceof ArrayIndexOutOfBoundsException);
     }
 
     private static void report(String text) {

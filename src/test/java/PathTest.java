@@ -48,6 +48,10 @@ final class PathTest {
         bestIs(post, 55, 0, 1);
         post.pass(9);
         bestIs(post, 55, 0, 1);
+        Routepost other = Posts.ring();
+        other.accept(1, 1111, 3, 2);
+        // 25 to 35 at hub 2, 48 to 68 at hub 0.
+        bestIs(other, 68, 1, 2);
     }
 
     private static void promise27PlansStay() {

@@ -90,26 +90,29 @@ final class RandomRunsTest {
     private Object[] drawArguments(String name) {
         switch (name) {
             case "openHub":
-                return new Object[] {CODES[random.nextInt(CODES.length)], random.nextInt(40) == 0 ? 0 : 1 + random.nextInt(20)};
+                return new Object[] {CODES[random.nextInt(CODES.length)], oneIn(40) ? 0 : 1 + random.nextInt(20)};
             case "addLine":
-                return new Object[] {drawHub(), drawHub(), random.nextInt(61), 5 + random.nextInt(random.nextBoolean() ? 10 : 57),
-                    1 + random.nextInt(random.nextBoolean() ? 20 : 61), 1 + random.nextInt(random.nextInt(10) == 0 ? 5 : 2)};
+                return new Object[] {drawHub(), drawHub(), random.nextInt(61),
+                    5 + random.nextInt(random.nextBoolean() ? 10 : 57),
+                    1 + random.nextInt(random.nextBoolean() ? 20 : 61), 1 + random.nextInt(oneIn(10) ? 5 : 2)};
             case "closeLine":
                 return new Object[] {random.nextInt(model.lines() + 2) - 1};
             case "accept":
                 return new Object[] {drawHub(), ADDRESSES[random.nextInt(ADDRESSES.length)],
-                    random.nextInt(10) == 0 ? random.nextInt(11) : 1 + random.nextInt(9),
-                    random.nextInt(20) == 0 ? 3 : random.nextInt(3)};
+                    oneIn(10) ? random.nextInt(11) : 1 + random.nextInt(9), oneIn(20) ? 3 : random.nextInt(3)};
             case "scan":
                 return drawScan();
             case "deliver":
-                return new Object[] {drawParcel(), random.nextInt(3) == 0};
+                return new Object[] {drawParcel(), oneIn(3)};
             case "recall":
                 return new Object[] {drawParcel()};
             default:
-                return new Object[] {random.nextInt(40) == 0 ? 121 : random.nextInt(6) == 0 ? random.nextInt(121)
-                    : 1 + random.nextInt(15)};
+                return new Object[] {oneIn(40) ? 121 : oneIn(6) ? random.nextInt(121) : 1 + random.nextInt(15)};
         }
+    }
+
+    private boolean oneIn(int count) {
+        return random.nextInt(count) == 0;
     }
 
     private int drawHub() {
