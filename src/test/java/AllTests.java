@@ -17,6 +17,19 @@ final class AllTests {
         BagTest.run();
         EventTest.run();
         FigureTest.run();
+        HubTermsTest.run();
+        LineTermsTest.run();
+        ParcelTermsTest.run();
+        PathTermsTest.run();
+        PlanTermsTest.run();
+        TruckTermsTest.run();
+        ScanTermsTest.run();
+        DeliveryTermsTest.run();
+        EventTermsTest.run();
+        ExceptionTest.run();
+        IndexTest.run();
+        LongUseTest.run();
+        UnchangedTest.run();
         RandomRunsTest.run();
         Check.end();
     }

@@ -93,6 +93,10 @@ final class Answers {
         }
     }
 
+    static String answer(Object sorter, String name, Object[] arguments) {
+        return answer(sorter, method(sorter.getClass(), name), arguments);
+    }
+
     static Method method(Class<?> kind, String name) {
         for (Method method : kind.getDeclaredMethods()) {
             if (method.getName().equals(name) && Modifier.isPublic(method.getModifiers())) {

@@ -14,6 +14,10 @@ final class Check {
         void run();
     }
 
+    interface Question {
+        Object ask();
+    }
+
     private Check() {
     }
 
@@ -76,6 +80,15 @@ final class Check {
         }
         if (!before.equals(Answers.of(post))) {
             report(what + " was refused and changed something");
+        }
+    }
+
+    /** The answer of a call as a text, or the name of the exception that it throws. */
+    static String outcome(Question question) {
+        try {
+            return String.valueOf(question.ask());
+        } catch (RuntimeException e) {
+            return isThrownByClass(e) ? e.getClass().getName() : "by the machine or the library " + e;
         }
     }
 

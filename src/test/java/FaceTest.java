@@ -27,6 +27,8 @@ final class FaceTest {
     static void run() {
         Check.test("face", FaceTest::face);
         Check.test("promise 1", FaceTest::promise1NewObject);
+        Check.test("promise 1, all questions of a new object", FaceTest::promise1AllQuestions);
+        Check.test("promise 1, two objects", FaceTest::promise1TwoObjects);
     }
 
     private static void face() {
@@ -68,5 +70,29 @@ final class FaceTest {
         other.pass(3);
         Check.same("hubs of the first one", 0, post.hubs());
         Check.same("minute of the first one", 0, post.minute());
+    }
+
+    /** Neither hubs nor lines nor parcels: all that asks for one of them finds none. */
+    private static void promise1AllQuestions() {
+        Routepost post = new Routepost();
+        Check.same("lateShare", Check.ARITHMETIC.getName(), Check.outcome(post::lateShare));
+        Check.same("meanTime", Check.ARITHMETIC.getName(), Check.outcome(post::meanTime));
+        Check.refuses("addLine", post, Check.NO_SUCH, () -> post.addLine(0, 1, 0, 5, 1, 1));
+        Check.refuses("accept", post, Check.NO_SUCH, () -> post.accept(0, 1111, 1, 1));
+        Check.refuses("scan", post, Check.NO_SUCH, () -> post.scan(0, 0));
+        Check.same("hubByTrying", -1, post.hubByTrying(9999));
+        Check.same("pass", 0, post.pass(120));
+        Check.same("minute", 120, post.minute());
+        Check.same("openHub", 0, post.openHub(1, 1));
+    }
+
+    private static void promise1TwoObjects() {
+        Routepost one = Posts.allStates();
+        String before = Answers.of(one);
+        Routepost other = Posts.allStatesAndFull();
+        other.pass(120);
+        other.closeLine(0);
+        Check.same("the one knows nothing of the other", before, Answers.of(one));
+        Check.same("made in the same way", before, Answers.of(Posts.allStates()));
     }
 }

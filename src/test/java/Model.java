@@ -430,6 +430,10 @@ final class Model {
         return it.departure(minute + 1);
     }
 
+    boolean isOpen(int line) {
+        return find(lines, line).open;
+    }
+
     public char state(int parcel) {
         return find(parcels, parcel).state;
     }

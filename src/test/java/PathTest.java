@@ -20,7 +20,7 @@ final class PathTest {
     }
 
     /** The best path of parcel 0, by all ways; the lines are given in their order. */
-    private static void bestIs(Routepost post, int arrival, int... lines) {
+    static void bestIs(Routepost post, int arrival, int... lines) {
         Check.same("arrival", arrival, post.arrival(0));
         Check.same("arrivalByPaths", arrival, post.arrivalByPaths(0));
         Check.same("arrivalBySimulation", arrival, post.arrivalBySimulation(0));
@@ -31,14 +31,6 @@ final class PathTest {
         }
         Check.refuses("pathAt(-1)", post, Check.INDEX, () -> post.pathAt(0, -1));
         Check.refuses("pathAt(size)", post, Check.INDEX, () -> post.pathAt(0, lines.length));
-    }
-
-    private static Routepost quickHubs(int count) {
-        Routepost post = new Routepost();
-        for (int i = 1; i <= count; i++) {
-            post.openHub(i, 1);
-        }
-        return post;
     }
 
     private static void chainOfLines() {
@@ -107,7 +99,7 @@ final class PathTest {
     }
 
     private static void fewerLines() {
-        Routepost post = quickHubs(4);
+        Routepost post = Posts.hubsWith(4, 1);
         post.addLine(0, 2, 5, 60, 5, 1);
         post.addLine(2, 1, 12, 60, 3, 1);
         post.addLine(0, 1, 5, 60, 25, 1);
@@ -119,7 +111,7 @@ final class PathTest {
     }
 
     private static void moreLinesButEarlier() {
-        Routepost post = quickHubs(3);
+        Routepost post = Posts.hubsWith(3, 1);
         post.addLine(0, 2, 5, 60, 20, 1);
         post.addLine(0, 1, 5, 60, 5, 1);
         post.addLine(1, 2, 11, 60, 13, 1);
@@ -129,7 +121,7 @@ final class PathTest {
     }
 
     private static void lowerNumbers() {
-        Routepost post = quickHubs(3);
+        Routepost post = Posts.hubsWith(3, 1);
         post.addLine(1, 2, 30, 60, 5, 1);
         post.addLine(0, 1, 5, 60, 20, 1);
         post.addLine(1, 2, 30, 60, 5, 1);
@@ -141,7 +133,7 @@ final class PathTest {
     }
 
     private static void lowerNumbersFirstDifference() {
-        Routepost post = quickHubs(4);
+        Routepost post = Posts.hubsWith(4, 1);
         post.addLine(2, 3, 30, 60, 5, 1);
         post.addLine(0, 1, 5, 60, 20, 1);
         post.addLine(0, 2, 5, 60, 5, 1);
@@ -152,10 +144,7 @@ final class PathTest {
     }
 
     private static void fiveLines() {
-        Routepost post = new Routepost();
-        for (int i = 1; i <= 6; i++) {
-            post.openHub(i, 20);
-        }
+        Routepost post = Posts.hubsWith(6, 20);
         int[] arrivals = new int[6];
         for (int i = 0; i < 5; i++) {
             post.addLine(i, i + 1, (arrivals[i] + 19) % 60, 60, 60, 1);
@@ -184,7 +173,7 @@ final class PathTest {
     }
 
     private static void manyPaths() {
-        Routepost post = quickHubs(6);
+        Routepost post = Posts.hubsWith(6, 1);
         int[] widths = {2, 2, 2, 3, 3};
         for (int i = 0; i < widths.length; i++) {
             for (int k = 0; k < widths[i]; k++) {

@@ -1,20 +1,19 @@
-import java.lang.reflect.Method;
 import java.util.Random;
 
 /** Promises 2 to 47: long runs of drawn calls, each answered by the sorter and by the model. */
 final class RandomRunsTest {
     private static final int RUNS = 60;
     private static final int CALLS = 512;
-    private static final int[] CODES = {1, 2, 21, 213, 3, 35, 4, 11, 0, 20, 1000};
-    private static final int[] ADDRESSES = {1111, 2111, 2134, 2155, 3555, 3111, 4444, 1211, 2011, 999, 5555};
 
     private final Random random;
     private final Routepost post = new Routepost();
     private final Model model = new Model();
+    private final Draw draw;
     private final StringBuilder calls = new StringBuilder();
 
     private RandomRunsTest(long seed) {
         random = new Random(seed);
+        draw = new Draw(random, model);
     }
 
     static void run() {
@@ -35,11 +34,11 @@ final class RandomRunsTest {
     }
 
     private boolean compareOne(int index) {
-        String name = drawName(index);
-        Object[] arguments = drawArguments(name);
+        String name = draw.name(index);
+        Object[] arguments = draw.arguments(name);
         calls.append(name).append(java.util.Arrays.toString(arguments)).append(' ');
-        String want = answer(model, name, arguments);
-        String got = answer(post, name, arguments);
+        String want = Answers.answer(model, name, arguments);
+        String got = Answers.answer(post, name, arguments);
         Check.same(name, want, got);
         return want.equals(got);
     }
@@ -57,88 +56,5 @@ final class RandomRunsTest {
             }
         }
         return isSame;
-    }
-
-    private static String answer(Object sorter, String name, Object[] arguments) {
-        Method method = Answers.method(sorter.getClass(), name);
-        return Answers.answer(sorter, method, arguments);
-    }
-
-    private String drawName(int index) {
-        int drawn = random.nextInt(index < 20 ? 40 : 100);
-        if (drawn < 10) {
-            return index < 20 ? "openHub" : drawn < 1 ? "openHub" : drawn < 5 ? "pass" : "scan";
-        }
-        if (drawn < 25) {
-            return index < 30 || random.nextInt(8) == 0 ? "addLine" : "scan";
-        }
-        if (drawn < 42) {
-            return "accept";
-        }
-        if (drawn < 60) {
-            return "pass";
-        }
-        if (drawn < 85) {
-            return "scan";
-        }
-        if (drawn < 95) {
-            return "deliver";
-        }
-        return drawn < 98 ? "recall" : random.nextInt(3) == 0 ? "closeLine" : "pass";
-    }
-
-    private Object[] drawArguments(String name) {
-        switch (name) {
-            case "openHub":
-                return new Object[] {CODES[random.nextInt(CODES.length)], oneIn(40) ? 0 : 1 + random.nextInt(20)};
-            case "addLine":
-                return new Object[] {drawHub(), drawHub(), random.nextInt(61),
-                    5 + random.nextInt(random.nextBoolean() ? 10 : 57),
-                    1 + random.nextInt(random.nextBoolean() ? 20 : 61), 1 + random.nextInt(oneIn(10) ? 5 : 2)};
-            case "closeLine":
-                return new Object[] {random.nextInt(model.lines() + 2) - 1};
-            case "accept":
-                return new Object[] {drawHub(), ADDRESSES[random.nextInt(ADDRESSES.length)],
-                    oneIn(10) ? random.nextInt(11) : 1 + random.nextInt(9), oneIn(20) ? 3 : random.nextInt(3)};
-            case "scan":
-                return drawScan();
-            case "deliver":
-                return new Object[] {drawParcel(), oneIn(3)};
-            case "recall":
-                return new Object[] {drawParcel()};
-            default:
-                return new Object[] {oneIn(40) ? 121 : oneIn(6) ? random.nextInt(121) : 1 + random.nextInt(15)};
-        }
-    }
-
-    private boolean oneIn(int count) {
-        return random.nextInt(count) == 0;
-    }
-
-    private int drawHub() {
-        return random.nextInt(60) == 0 ? model.hubs() : random.nextInt(Math.max(1, model.hubs()));
-    }
-
-    private int drawParcel() {
-        int count = model.parcels();
-        for (int i = 0; i < 20 && count > 0; i++) {
-            int parcel = random.nextInt(count);
-            if (model.state(parcel) == 's' && model.at(parcel) == model.destination(parcel)) {
-                return parcel;
-            }
-        }
-        return random.nextInt(count + 1) - (random.nextInt(20) == 0 ? 1 : 0);
-    }
-
-    /** Mostly where the parcel is known to be, else it is held too soon. */
-    private Object[] drawScan() {
-        int count = model.parcels();
-        for (int i = 0; i < 20 && count > 0 && random.nextInt(15) > 0; i++) {
-            int parcel = random.nextInt(count);
-            if (model.state(parcel) == 'u') {
-                return new Object[] {parcel, model.at(parcel)};
-            }
-        }
-        return new Object[] {random.nextInt(count + 1) - (random.nextInt(20) == 0 ? 1 : 0), drawHub()};
     }
 }
