@@ -56,7 +56,7 @@ public final class Routepost {
         parcels = new ArrayList<Parcel>();
         queue = new ArrayList<Parcel>();
         leftBehind = new ArrayList<Parcel>();
-        looseBags = new Bags(MOST_PARCELS);
+        looseBags = new Bags();
         search = new PathSearch();
         trial = new PathTrial();
         simulation = new Simulation();
@@ -723,7 +723,7 @@ public final class Routepost {
             this.from = from;
             this.to = to;
             this.mostBags = mostBags;
-            truck = new Bags(MOST_BAGS);
+            truck = new Bags();
             isOpen = true;
         }
 
@@ -859,9 +859,10 @@ public final class Routepost {
         private final int[] volumes;
         int count;
 
-        Bags(int room) {
-            goals = new Hub[room];
-            volumes = new int[room];
+        // A truck needs less, but a question without a limit on bags may need one a parcel.
+        Bags() {
+            goals = new Hub[MOST_PARCELS];
+            volumes = new int[MOST_PARCELS];
         }
 
         void clear() {

@@ -26,6 +26,7 @@ final class AllTests {
         ScanTermsTest.run();
         DeliveryTermsTest.run();
         EventTermsTest.run();
+        FigureTermsTest.run();
         ExceptionTest.run();
         IndexTest.run();
         LongUseTest.run();

@@ -15,10 +15,16 @@ final class PathTermsTest {
         Check.test("the first departure is in the first minute", PathTermsTest::firstMinute);
         Check.test("the one with the earliest arrival there", PathTermsTest::earliest);
         Check.test("of several, the one with the fewest lines", PathTermsTest::fewest);
+        Check.test("the fewest lines, though later on the way", PathTermsTest::fewestThoughLaterOnTheWay);
         Check.test("of several, the one with the lower line number", PathTermsTest::lowerNumber);
+        Check.test("the lower line number, though later on the way",
+                PathTermsTest::lowerNumberThoughLaterOnTheWay);
         Check.test("where they first differ", PathTermsTest::firstDifference);
         Check.test("At the destination itself the best path has no lines", PathTermsTest::atDestination);
         Check.test("a path has one to five lines", PathTermsTest::sizes);
+        Check.test("a path to the first hub and through it", PathTermsTest::firstHub);
+        Check.test("the longest path there can be", PathTermsTest::longest);
+        Check.test("visits no hub twice, however many ways lead around", PathTermsTest::manyWaysAround);
         Check.test("pathAt throws if there is no path", PathTermsTest::noPath);
     }
 
@@ -178,6 +184,45 @@ final class PathTermsTest {
         PathTest.bestIs(post, 30, 4);
     }
 
+    /** The way of more lines is at the last hub but one first, and there both wait for the same truck. */
+    private static void fewestThoughLaterOnTheWay() {
+        for (int lines = 1; lines <= 2; lines++) {
+            Routepost post = Posts.hubsWith(5, 1);
+            post.addLine(3, 4, 50, 60, 5, 1);
+            post.addLine(0, 1, 5, 60, 1, 1);
+            post.addLine(1, lines == 1 ? 3 : 2, 10, 60, 1, 1);
+            post.addLine(2, 3, 15, 60, 1, 1);
+            post.addLine(0, 3, 5, 60, 40, 1);
+            post.accept(0, 5555, 1, 1);
+            PathTest.bestIs(post, 55, 4, 0);
+            post.closeLine(4);
+            if (lines == 1) {
+                PathTest.bestIs(post, 55, 1, 2, 0);
+            } else {
+                PathTest.bestIs(post, 55, 1, 2, 3, 0);
+            }
+        }
+    }
+
+    /** The way of the higher number is at the last hub but one first, and there both wait for the same truck. */
+    private static void lowerNumberThoughLaterOnTheWay() {
+        Routepost post = Posts.hubsWith(4, 1);
+        post.addLine(2, 3, 50, 60, 5, 1);
+        post.addLine(0, 1, 5, 60, 1, 1);
+        post.addLine(1, 2, 10, 60, 30, 1);
+        post.addLine(1, 2, 10, 60, 20, 1);
+        post.addLine(0, 1, 5, 60, 2, 1);
+        post.addLine(1, 2, 10, 60, 10, 1);
+        post.accept(0, 4444, 1, 1);
+        PathTest.bestIs(post, 55, 1, 2, 0);
+        post.closeLine(2);
+        PathTest.bestIs(post, 55, 1, 3, 0);
+        post.closeLine(1);
+        PathTest.bestIs(post, 55, 4, 3, 0);
+        post.closeLine(3);
+        PathTest.bestIs(post, 55, 4, 5, 0);
+    }
+
     /** The numbers 2, 9, 10 and 11 are put in order as numbers, on the first and on the second way. */
     private static void lowerNumber() {
         for (int from = 0; from <= 1; from++) {
@@ -258,6 +303,52 @@ final class PathTermsTest {
             post.accept(0, Posts.addressOf(size), 1, 1);
             PathTest.bestIs(post, 10 * size, want);
         }
+    }
+
+    private static void firstHub() {
+        Routepost post = Posts.hubsWith(6, 1);
+        for (int hub = 5; hub > 0; hub--) {
+            post.addLine(hub, hub - 1, 5 + 10 * (5 - hub), 60, 5, 1);
+        }
+        post.accept(5, 1111, 1, 1);
+        PathTest.bestIs(post, 50, 0, 1, 2, 3, 4);
+        Routepost other = Posts.hubsWith(3, 1);
+        other.addLine(2, 0, 5, 60, 5, 1);
+        other.addLine(0, 1, 15, 60, 5, 1);
+        other.accept(2, 2222, 1, 1);
+        PathTest.bestIs(other, 20, 0, 1);
+    }
+
+    /** On each of five lines 20 minutes of cutoff, 59 of waiting and 60 of travel. */
+    private static void longest() {
+        Routepost post = Posts.hubsWith(6, 20);
+        int[] firsts = {19, 38, 57, 16, 35};
+        for (int hub = 0; hub < 5; hub++) {
+            post.addLine(hub, hub + 1, firsts[hub], 60, 60, 1);
+        }
+        post.accept(0, 6666, 1, 1);
+        PathTest.bestIs(post, 695, 0, 1, 2, 3, 4);
+    }
+
+    /** Lines lead to and fro between two hubs long before the slow way is over. */
+    private static void manyWaysAround() {
+        Routepost post = Posts.hubsWith(4, 1);
+        for (int i = 0; i < 10; i++) {
+            post.addLine(i % 2, 1 - i % 2, 0, 5, 1, 1);
+        }
+        post.addLine(0, 2, 59, 60, 60, 1);
+        post.addLine(2, 3, 59, 60, 60, 1);
+        post.accept(0, 4444, 1, 1);
+        PathTest.bestIs(post, 239, 10, 11);
+        Routepost further = Posts.hubsWith(6, 1);
+        for (int i = 0; i < 8; i++) {
+            further.addLine(3 + i % 2, 4 - i % 2, 0, 5, 1, 1);
+        }
+        further.addLine(5, 4, 0, 5, 1, 1);
+        further.addLine(4, 2, 59, 60, 60, 1);
+        further.addLine(2, 1, 59, 60, 60, 1);
+        further.accept(5, 2222, 1, 1);
+        PathTest.bestIs(further, 239, 8, 9, 10);
     }
 
     private static void noPath() {

@@ -10,6 +10,7 @@ final class TruckTermsTest {
         Check.test("that have it as their next line", TruckTermsTest::nextLineAlone);
         Check.test("scanned at least the cutoff of its first hub ago", TruckTermsTest::cutoffs);
         Check.test("not scanned long enough ago is not left behind", TruckTermsTest::tooLateIsNotLeftBehind);
+        Check.test("not scanned long enough ago, ahead of others that are", TruckTermsTest::tooLateIsPassedOver);
         Check.test("by service, the lower one first", TruckTermsTest::byService);
         Check.test("then by promise, the earlier one first", TruckTermsTest::byPromise);
         Check.test("those without a promise last", TruckTermsTest::withoutPromiseLast);
@@ -21,6 +22,8 @@ final class TruckTermsTest {
         Check.test("otherwise it is left behind, and the next one is tried", TruckTermsTest::nextOneTried);
         Check.test("A truck without parcels does not leave", TruckTermsTest::emptyTruckStays);
         Check.test("After all departures of the minute they are planned anew", TruckTermsTest::plannedAfterAll);
+        Check.test("for each destination the volumes divided by 12, rounded up", TruckTermsTest::bagsAtLeast);
+        Check.test("bagsNeeded goes by the order of loading", TruckTermsTest::bagsNeeded);
         Check.test("40 parcels on one truck", TruckTermsTest::fullTruck);
         Check.test("the bags of each line by themselves", TruckTermsTest::bagsOfTwelveLines);
     }
@@ -121,6 +124,21 @@ final class TruckTermsTest {
         Check.same("nextLine", 0, post.nextLine(0));
     }
 
+    private static void tooLateIsPassedOver() {
+        Routepost post = Posts.hubsWith(2, 5);
+        post.addLine(0, 1, 10, 60, 5, 1);
+        post.accept(0, 2222, 9, 2);
+        post.pass(5);
+        post.accept(0, 2222, 3, 1);
+        post.pass(1);
+        post.accept(0, 2222, 9, 0);
+        Check.same("waitingAt", 2, post.waitingAt(0, 0));
+        post.pass(4);
+        Check.same("loaded", "tts", states(post));
+        Check.same("missed", 0, post.missed(2));
+        Check.same("bagVolume", 12, post.bagVolume(0, 0));
+    }
+
     private static void byService() {
         Routepost post = twoLines(1);
         post.accept(0, 2222, 9, 2);
@@ -196,6 +214,9 @@ final class TruckTermsTest {
         }
         for (int i = 0; i < 40; i++) {
             Check.same("waitingAt", i, post.waitingAt(0, i));
+        }
+        for (int rank : new int[] {Integer.MIN_VALUE, -1, 40, 41, Integer.MAX_VALUE}) {
+            Check.refuses("rank " + rank, post, Check.INDEX, () -> post.waitingAt(0, rank));
         }
         for (int i = 0; i < 3; i++) {
             Posts.passTo(post, 5 + 60 * i);
@@ -334,6 +355,51 @@ final class TruckTermsTest {
         Check.same("no truck of the line 1", 0, post.bags(1));
         post.pass(1);
         Check.same("rides", 2, post.rides(1));
+    }
+
+    private static void bagsAtLeast() {
+        for (int to = 0; to < 6; to++) {
+            int from = (to + 1) % 6;
+            Routepost post = Posts.hubsWith(6, 1);
+            post.addLine(from, to, 5, 60, 5, 1);
+            Check.same("nobody waits", 0, post.bagsAtLeast(0));
+            for (int volume = 1; volume <= 40; volume++) {
+                post.accept(from, Posts.addressOf(to), 1, 1);
+                int want = volume <= 12 ? 1 : volume <= 24 ? 2 : volume <= 36 ? 3 : 4;
+                Check.same("volume " + volume, want, post.bagsAtLeast(0));
+            }
+        }
+        Routepost post = Posts.hubsWith(6, 1);
+        post.addLine(5, 4, 5, 60, 5, 1);
+        for (int hub = 4; hub > 0; hub--) {
+            post.addLine(hub, hub - 1, 5, 60, 5, 1);
+        }
+        for (int hub = 0; hub < 5; hub++) {
+            post.accept(5, Posts.addressOf(hub), 9, 1);
+            Check.same("each destination by itself", hub + 1, post.bagsAtLeast(0));
+            post.accept(5, Posts.addressOf(hub), 3, 1);
+            Check.same("each destination by itself", hub + 1, post.bagsAtLeast(0));
+        }
+        Check.same("bagsNeeded", 5, post.bagsNeeded(0));
+    }
+
+    private static void bagsNeeded() {
+        for (int small = 0; small <= 2; small += 2) {
+            Routepost post = twoLines(1);
+            post.accept(0, 2222, 8, 1);
+            post.accept(0, 2222, 8, 1);
+            post.accept(0, 2222, 4, small);
+            post.accept(0, 2222, 4, small);
+            Check.same("bagsAtLeast", 2, post.bagsAtLeast(0));
+            Check.same("the small ones first or last", small == 0 ? 3 : 2, post.bagsNeeded(0));
+        }
+        Routepost post = twoLines(1);
+        Check.same("nobody waits", 0, post.bagsNeeded(0));
+        for (int i = 1; i <= 40; i++) {
+            post.accept(0, 2222, 9, 1);
+            Check.same("no limit on bags", i, post.bagsNeeded(0));
+        }
+        Check.same("bagsAtLeast", 30, post.bagsAtLeast(0));
     }
 
     private static void fullTruck() {
