@@ -7,6 +7,7 @@ final class FigureTermsTest {
         Check.test("the share of parcels that are late: none, one and all", FigureTermsTest::shares);
         Check.test("their number divided by that of all, both converted to float", FigureTermsTest::floats);
         Check.test("all parcels count, in whatever state", FigureTermsTest::allStates);
+        Check.test("late returns count, delivered late ones and held ones too", FigureTermsTest::lateReturns);
         Check.test("from their acceptance to their delivery", FigureTermsTest::acceptanceToDelivery);
         Check.test("divided by the number of these parcels, both converted to double", FigureTermsTest::doubles);
         Check.test("returns that have been delivered", FigureTermsTest::returns);
@@ -64,6 +65,32 @@ final class FigureTermsTest {
         post.scan(5, 2);
         Check.same("held", 'h', post.state(5));
         Check.same("delivered and held ones still count", 0.375, post.lateShare());
+    }
+
+    private static void lateReturns() {
+        Routepost post = Posts.hubsWith(2, 1);
+        post.addLine(1, 0, 5, 60, 5, 4);
+        for (int i = 0; i < 4; i++) {
+            post.accept(0, 2222, 1, 2);
+            post.scan(i, 1);
+            post.recall(i);
+            Check.same("promise", 10, post.promise(i));
+        }
+        post.pass(10);
+        Check.same("in time", 0.0, post.lateShare());
+        post.scan(0, 0);
+        post.pass(1);
+        Check.same("three returns that nobody has scanned there", 0.75, post.lateShare());
+        post.scan(1, 0);
+        post.deliver(1, true);
+        post.scan(2, 0);
+        post.deliver(2, false);
+        Check.same("delivered", 'd', post.state(1));
+        Check.same("held", 'h', post.state(2));
+        Check.same("still late", 0.75, post.lateShare());
+        post.accept(0, 2222, 1, 2);
+        Check.same("without a promise", -1, post.promise(4));
+        Check.same("three of five", (double) 0.6f, post.lateShare());
     }
 
     private static void acceptanceToDelivery() {

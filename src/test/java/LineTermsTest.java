@@ -191,6 +191,9 @@ final class LineTermsTest {
             Check.same("before it is due", 0, minute == 24 ? 0 : post.pass(24 - minute));
             Check.same("on the way", 't', post.state(0));
             Check.same("rides", 0, post.rides(0));
+            Check.same("riding", minute < 20 ? 1 : 2, post.riding(0));
+            Check.same("bags", 1, post.bags(0));
+            Check.refuses("at", post, Check.STATE, () -> post.at(0));
             Check.same("when it is due", 1, post.pass(1));
             Check.same("at", 1, post.at(0));
             Check.same("scan", 'o', post.scan(0, 1));

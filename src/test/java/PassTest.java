@@ -11,6 +11,8 @@ final class PassTest {
         Check.test("promise 9, the planned line alone", PassTest::promise9PlannedLine);
         Check.test("promise 9, bags", PassTest::promise9Bags);
         Check.test("promise 9, left behind", PassTest::promise9LeftBehind);
+        Check.test("promise 9, left behind again and again in one call", PassTest::promise9LeftBehindInOneCall);
+        Check.test("promise 9, at once and minute by minute", PassTest::promise9AtOnce);
         Check.test("promise 9, planned after all departures", PassTest::promise9PlannedAfterwards);
         Check.test("promise 9, two lines in a minute", PassTest::promise9TwoLines);
         Check.test("promise 9, arrivals first", PassTest::promise9NotScanned);
@@ -120,6 +122,37 @@ final class PassTest {
         post.pass(2);
         Check.same("scanned as before, long enough ago", 't', post.state(0));
         Check.same("rides", 1, post.rides(0));
+    }
+
+    /** Each of three lines takes one of the parcels, and the last one waits for the next truck of the first line. */
+    private static void promise9LeftBehindInOneCall() {
+        Routepost post = Posts.hubsWith(2, 1);
+        for (int line = 0; line < 3; line++) {
+            post.addLine(0, 1, 5 + 5 * line, 60, 5 + 5 * line, 1);
+        }
+        for (int i = 0; i < 4; i++) {
+            post.accept(0, 2222, 9, 1);
+            Check.same("nextLine", 0, post.nextLine(i));
+        }
+        Check.same("unloaded", 4, post.pass(70));
+        for (int i = 0; i < 4; i++) {
+            Check.same("missed", i, post.missed(i));
+            Check.same("loaded in", i < 3 ? 5 + 5 * i : 65, post.eventMinute(i, 1));
+            Check.same("unloaded in", i < 3 ? 10 + 10 * i : 70, post.eventMinute(i, 2));
+        }
+    }
+
+    private static void promise9AtOnce() {
+        for (int minutes : new int[] {1, 2, 15, 60, 119, 120}) {
+            Routepost once = Posts.allStatesAndFull();
+            Routepost often = Posts.allStatesAndFull();
+            int unloaded = 0;
+            for (int i = 0; i < minutes; i++) {
+                unloaded += often.pass(1);
+            }
+            Check.same("unloaded in " + minutes, unloaded, once.pass(minutes));
+            Check.same("all answers in " + minutes, Answers.of(often), Answers.of(once));
+        }
     }
 
     private static void promise9PlannedAfterwards() {

@@ -16,14 +16,20 @@ final class PathTermsTest {
         Check.test("the one with the earliest arrival there", PathTermsTest::earliest);
         Check.test("of several, the one with the fewest lines", PathTermsTest::fewest);
         Check.test("the fewest lines, though later on the way", PathTermsTest::fewestThoughLaterOnTheWay);
+        Check.test("the fewest lines, though the last hub but one has been left already",
+                PathTermsTest::fewestThroughLateHub);
         Check.test("of several, the one with the lower line number", PathTermsTest::lowerNumber);
         Check.test("the lower line number, though later on the way",
                 PathTermsTest::lowerNumberThoughLaterOnTheWay);
+        Check.test("the lower line number, though the last hub but one has been left already",
+                PathTermsTest::lowerNumberThroughLateHub);
         Check.test("where they first differ", PathTermsTest::firstDifference);
         Check.test("At the destination itself the best path has no lines", PathTermsTest::atDestination);
         Check.test("a path has one to five lines", PathTermsTest::sizes);
         Check.test("a path to the first hub and through it", PathTermsTest::firstHub);
+        Check.test("lines that come back don't change the minute of the scan", PathTermsTest::backAtFirstHub);
         Check.test("the longest path there can be", PathTermsTest::longest);
+        Check.test("the last one of the most paths there can be", PathTermsTest::mostPaths);
         Check.test("visits no hub twice, however many ways lead around", PathTermsTest::manyWaysAround);
         Check.test("pathAt throws if there is no path", PathTermsTest::noPath);
     }
@@ -204,6 +210,35 @@ final class PathTermsTest {
         }
     }
 
+    /** The way of more lines is over before the other one is at its second hub. */
+    private static void fewestThroughLateHub() {
+        Routepost post = Posts.hubsWith(6, 1);
+        post.addLine(4, 5, 50, 60, 5, 1);
+        post.addLine(0, 1, 5, 60, 1, 1);
+        post.addLine(1, 2, 10, 60, 1, 1);
+        post.addLine(2, 4, 15, 60, 1, 1);
+        post.addLine(0, 3, 5, 60, 25, 1);
+        post.addLine(3, 4, 35, 60, 5, 1);
+        post.accept(0, 6666, 1, 1);
+        PathTest.bestIs(post, 55, 4, 5, 0);
+        post.closeLine(5);
+        PathTest.bestIs(post, 55, 1, 2, 3, 0);
+    }
+
+    /** The way of the higher number is over before the other one is at its second hub. */
+    private static void lowerNumberThroughLateHub() {
+        Routepost post = Posts.hubsWith(5, 1);
+        post.addLine(3, 4, 50, 60, 5, 1);
+        post.addLine(0, 1, 5, 60, 25, 1);
+        post.addLine(1, 3, 35, 60, 5, 1);
+        post.addLine(0, 2, 5, 60, 1, 1);
+        post.addLine(2, 3, 10, 60, 1, 1);
+        post.accept(0, 5555, 1, 1);
+        PathTest.bestIs(post, 55, 1, 2, 0);
+        post.closeLine(2);
+        PathTest.bestIs(post, 55, 3, 4, 0);
+    }
+
     /** The way of the higher number is at the last hub but one first, and there both wait for the same truck. */
     private static void lowerNumberThoughLaterOnTheWay() {
         Routepost post = Posts.hubsWith(4, 1);
@@ -319,6 +354,19 @@ final class PathTermsTest {
         PathTest.bestIs(other, 20, 0, 1);
     }
 
+    /** By the lines 0 and 1 it could be back in 23, too late for the cutoff of the truck in 40. */
+    private static void backAtFirstHub() {
+        Routepost post = new Routepost();
+        post.openHub(1, 20);
+        post.openHub(2, 1);
+        post.openHub(3, 1);
+        post.addLine(0, 1, 20, 60, 1, 1);
+        post.addLine(1, 0, 22, 60, 1, 1);
+        post.addLine(0, 2, 40, 60, 1, 1);
+        post.accept(0, 3333, 1, 1);
+        PathTest.bestIs(post, 41, 2);
+    }
+
     /** On each of five lines 20 minutes of cutoff, 59 of waiting and 60 of travel. */
     private static void longest() {
         Routepost post = Posts.hubsWith(6, 20);
@@ -328,6 +376,22 @@ final class PathTermsTest {
         }
         post.accept(0, 6666, 1, 1);
         PathTest.bestIs(post, 695, 0, 1, 2, 3, 4);
+    }
+
+    /**
+     * 3, 3, 3, 2 and 1 lines make 147 paths, more than other 12 lines. All that come to hub 4 wait for one truck, and
+     * the lowest numbers come there last.
+     */
+    private static void mostPaths() {
+        Routepost post = Posts.hubsWith(6, 1);
+        for (int line = 0; line < 11; line++) {
+            post.addLine(line / 3, line / 3 + 1, 0, 5, 12 - 5 * (line % 3), 1);
+        }
+        post.addLine(4, 5, 10, 60, 1, 1);
+        post.accept(0, 6666, 1, 1);
+        PathTest.bestIs(post, 71, 0, 3, 6, 9, 11);
+        post.closeLine(9);
+        PathTest.bestIs(post, 71, 0, 3, 6, 10, 11);
     }
 
     /** Lines lead to and fro between two hubs long before the slow way is over. */

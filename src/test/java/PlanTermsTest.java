@@ -10,6 +10,10 @@ final class PlanTermsTest {
         Check.test("It is planned when it is left behind by a truck", PlanTermsTest::plannedWhenLeftBehind);
         Check.test("for all parcels in the state 's', when a line is added or closed",
                 PlanTermsTest::plannedWhenLinesChange);
+        Check.test("for all parcels, also when a line is closed that isn't their next one",
+                PlanTermsTest::plannedWhenFarLineCloses);
+        Check.test("for all parcels, also when a line is added that begins elsewhere",
+                PlanTermsTest::plannedWhenFarLineIsAdded);
         Check.test("Being left behind does not change the minute of the scan", PlanTermsTest::leftBehindKeepsScan);
         Check.test("adding a line does not change the minute of the scan", PlanTermsTest::addingKeepsScan);
         Check.test("closing a line does not change the minute of the scan", PlanTermsTest::closingKeepsScan);
@@ -98,6 +102,51 @@ final class PlanTermsTest {
         }
         Check.same("closeLine", 20, post.closeLine(0));
         Check.same("nextLine", -1, post.nextLine(0));
+    }
+
+    /** From hub 0 to hub 4 by hub 1 and hub 2, or by hub 3; three lines come last, and so may two of them. */
+    private static Routepost twoWays() {
+        Routepost post = Posts.hubsWith(5, 1);
+        post.addLine(0, 1, 5, 60, 5, 1);
+        post.addLine(0, 3, 5, 60, 5, 1);
+        post.addLine(2, 4, 25, 60, 5, 1);
+        post.addLine(3, 4, 59, 60, 5, 1);
+        return post;
+    }
+
+    private static void plannedWhenFarLineCloses() {
+        for (int closed : new int[] {2, 4}) {
+            Routepost post = twoWays();
+            post.addLine(1, 2, 15, 60, 5, 1);
+            post.accept(0, 5555, 1, 1);
+            post.accept(0, 2222, 1, 1);
+            post.accept(1, 5555, 1, 1);
+            Check.same("nextLine", 0, post.nextLine(0));
+            Check.same("arrival", 30, post.arrival(0));
+            int waiting = closed == 4 ? 1 : 0;
+            Check.same("parcels that had it as their next line", waiting, post.closeLine(closed));
+            Check.same("another first line", 1, post.nextLine(0));
+            Check.same("no other way", 0, post.nextLine(1));
+            Check.same("no way", -1, post.nextLine(2));
+            Check.same("the promise stays", 30, post.promise(0));
+        }
+    }
+
+    private static void plannedWhenFarLineIsAdded() {
+        Routepost post = twoWays();
+        post.accept(0, 5555, 1, 1);
+        post.accept(1, 5555, 1, 1);
+        post.accept(4, 5555, 1, 1);
+        Check.same("nextLine", 1, post.nextLine(0));
+        Check.same("no way", -1, post.nextLine(1));
+        // It neither begins where the first parcel is nor ends at its destination.
+        Check.same("addLine", 4, post.addLine(1, 2, 15, 60, 5, 1));
+        Check.same("another first line", 0, post.nextLine(0));
+        Check.same("a way", 4, post.nextLine(1));
+        Check.same("at its destination", -1, post.nextLine(2));
+        Check.same("waiting", 0, post.waiting(1));
+        post.pass(5);
+        Check.same("rides", 0, post.rides(0));
     }
 
     private static void leftBehindKeepsScan() {

@@ -12,6 +12,7 @@ final class ScanTermsTest {
         Check.test("with its third misroute it is held there instead", ScanTermsTest::thirdMisroute);
         Check.test("without being scanned", ScanTermsTest::heldWithoutScan);
         Check.test("Misroutes are counted from the acceptance on", ScanTermsTest::countedThroughReturn);
+        Check.test("counted from the acceptance on, also over other scans", ScanTermsTest::countedOverOtherScans);
         Check.test("other scans are no misroutes", ScanTermsTest::otherScansDontCount);
         Check.test("A truck from which parcels were taken arrives all the same", ScanTermsTest::truckArrives);
         Check.test("taken from one truck and loaded into the next one", ScanTermsTest::nextTruck);
@@ -153,6 +154,22 @@ final class ScanTermsTest {
         Check.same("failed", 'r', other.deliver(0, false));
         Check.same("misroutes", 2, other.misroutes(0));
         Check.same("third", 'h', other.scan(0, 0));
+    }
+
+    private static void countedOverOtherScans() {
+        Routepost post = oneLine(1);
+        post.scan(0, 2);
+        post.scan(0, 0);
+        Check.same("scan", 'a', post.scan(0, 0));
+        Check.same("misroutes", 2, post.misroutes(0));
+        post.pass(25);
+        Check.same("ridden", 2, post.misroutes(0));
+        Check.same("scan", 'o', post.scan(0, 1));
+        Check.same("scanned at its destination", 2, post.misroutes(0));
+        Check.same("deliver", 'w', post.deliver(0, false));
+        Check.same("not taken", 2, post.misroutes(0));
+        Check.same("third", 'h', post.scan(0, 0));
+        Check.same("attempts, of a parcel that wasn't turned back", 1, post.attempts(0));
     }
 
     private static void otherScansDontCount() {

@@ -22,6 +22,7 @@ final class TruckTermsTest {
         Check.test("otherwise it is left behind, and the next one is tried", TruckTermsTest::nextOneTried);
         Check.test("A truck without parcels does not leave", TruckTermsTest::emptyTruckStays);
         Check.test("After all departures of the minute they are planned anew", TruckTermsTest::plannedAfterAll);
+        Check.test("After all departures, also of lines that come next", TruckTermsTest::plannedForTheNextTime);
         Check.test("for each destination the volumes divided by 12, rounded up", TruckTermsTest::bagsAtLeast);
         Check.test("bagsNeeded goes by the order of loading", TruckTermsTest::bagsNeeded);
         Check.test("40 parcels on one truck", TruckTermsTest::fullTruck);
@@ -355,6 +356,27 @@ final class TruckTermsTest {
         Check.same("no truck of the line 1", 0, post.bags(1));
         post.pass(1);
         Check.same("rides", 2, post.rides(1));
+    }
+
+    /** The line 1 leaves in the same minute and is the best one afterwards: it takes the parcel only the next time. */
+    private static void plannedForTheNextTime() {
+        Routepost post = Posts.hubsWith(2, 1);
+        post.addLine(0, 1, 5, 60, 5, 1);
+        post.addLine(0, 1, 5, 5, 10, 4);
+        post.accept(0, 2222, 9, 1);
+        post.accept(0, 2222, 9, 1);
+        Check.same("nextLine", 0, post.nextLine(1));
+        post.pass(5);
+        Check.same("left behind", "ts", states(post));
+        Check.same("nextLine", 1, post.nextLine(1));
+        Check.same("missed", 1, post.missed(1));
+        Check.same("no truck of the line 1", 0, post.bags(1));
+        Check.same("no event", 1, post.events(1));
+        post.pass(4);
+        Check.same("not yet", "ts", states(post));
+        post.pass(1);
+        Check.same("rides", 1, post.rides(1));
+        Check.same("loaded in", 10, post.eventMinute(1, 1));
     }
 
     private static void bagsAtLeast() {
