@@ -24,6 +24,7 @@ final class AllTests {
         PathTermsTest.run();
         PlanTermsTest.run();
         TruckTermsTest.run();
+        LoadingTest.run();
         ScanTermsTest.run();
         DeliveryTermsTest.run();
         EventTermsTest.run();
