@@ -5,6 +5,7 @@ final class AllTests {
 
     public static void main(String[] args) {
         LanguageTest.run();
+        LibraryTest.run();
         ReadmeTest.run();
         FaceTest.run();
         HubTest.run();
