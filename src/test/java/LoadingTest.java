@@ -3,7 +3,7 @@ import java.util.List;
 
 /** The order of loading and the trucks that follow from it, with parcels that differ in all that they can. */
 final class LoadingTest {
-    private final Routepost post = Posts.hubsWith(3, 1);
+    private final Routepost post = Posts.hubsWith(4, 1);
     private final int[] volumes = new int[40];
     private final int[] services = new int[40];
 
@@ -18,7 +18,7 @@ final class LoadingTest {
     }
 
     /**
-     * The line 1 leaves hub 0 in 50 with so many bags, and all parcels but one wait for it: for the hubs 1 and 2, with
+     * The line 1 leaves hub 0 in 50 with so many bags, and all parcels but one wait for it: for the hubs 1 to 3, with
      * the promises 55 and 60 and without, scanned in many minutes, returns among them.
      */
     private static LoadingTest varied(int bags) {
@@ -34,7 +34,9 @@ final class LoadingTest {
             post.scan(i, 0);
             post.recall(i);
         }
-        test.accept(14, 0, 3333, 2222);
+        test.accept(6, 0, 3333, 2222);
+        test.accept(8, 0, 4444, 2222);
+        post.addLine(1, 3, 59, 60, 1, 4);
         for (int i = 1; i < 16; i += 3) {
             post.pass(1);
             post.scan(i, 2);
@@ -88,6 +90,8 @@ final class LoadingTest {
         Check.same("promise", 55, post.promise(16));
         Check.same("promise", 60, post.promise(25));
         Check.same("promise", 55, post.promise(26));
+        Check.same("without a promise", -1, post.promise(31));
+        Check.same("promise", 55, post.promise(32));
         List<Integer> due = test.due();
         for (int rank = 0; rank < 39; rank++) {
             Check.same("rank " + rank, due.get(rank), post.waitingAt(1, rank));

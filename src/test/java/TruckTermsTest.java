@@ -14,6 +14,7 @@ final class TruckTermsTest {
         Check.test("by service, the lower one first", TruckTermsTest::byService);
         Check.test("then by promise, the earlier one first", TruckTermsTest::byPromise);
         Check.test("those without a promise last", TruckTermsTest::withoutPromiseLast);
+        Check.test("those without a promise last, whatever their numbers", TruckTermsTest::withoutPromiseBetween);
         Check.test("then by number", TruckTermsTest::byNumber);
         Check.test("A bag is for one destination", TruckTermsTest::oneDestination);
         Check.test("room for a volume of 12", TruckTermsTest::roomForTwelve);
@@ -206,6 +207,31 @@ final class TruckTermsTest {
         Check.same("loaded", "tsus", states(post));
         post.pass(60);
         Check.same("loaded", "utus", states(post));
+    }
+
+    /** The line 0 leads on to hub 2 only when the parcels have been accepted. */
+    private static void withoutPromiseBetween() {
+        for (int goesFirst = 0; goesFirst < 4; goesFirst++) {
+            Routepost post = Posts.hubsWith(3, 1);
+            post.addLine(0, 1, 5, 60, 5, 1);
+            for (int i = 0; i < 4; i++) {
+                post.accept(0, i == goesFirst ? 2222 : 3333, 9, 1);
+                Check.same("promise", i == goesFirst ? 10 : -1, post.promise(i));
+            }
+            post.addLine(1, 2, 15, 60, 5, 1);
+            int rank = 0;
+            Check.same("the promised one", goesFirst, post.waitingAt(0, rank));
+            for (int i = 0; i < 4; i++) {
+                if (i != goesFirst) {
+                    rank++;
+                    Check.same("the others by number", i, post.waitingAt(0, rank));
+                }
+            }
+            post.pass(5);
+            for (int i = 0; i < 4; i++) {
+                Check.same("state", i == goesFirst ? 't' : 's', post.state(i));
+            }
+        }
     }
 
     private static void byNumber() {
